@@ -447,6 +447,25 @@ public final class PromisesTest {
         int three = mergingGame(3).number();
         checks.same("28 with merging", unlike.numberByHeaps(), two ^ three);
         checks.holds("28 merging makes a difference", differsSomewhere());
+        rulesChange();
+    }
+
+    /** An object that has seen other rules finds the same as a new one by the rules that there are. */
+    private static void rulesChange() {
+        CairnGame game = game(5, 4, 1);
+        for (int rules = 0; rules < 40; rules++) {
+            game.setGreatestTake(1 + rules * 3 % 5);
+            game.turnMerging();
+            if (rules % 2 == 0) {
+                game.turnSplitting();
+            }
+            Reference.Worth due = Reference.worth(java.util.List.of(5, 4, 1), game.greatestTake(),
+                    game.isSplitting(), game.isMerging());
+            checks.same("27 by changed rules", game.number(), due.number());
+            checks.same("29 by changed rules", game.isWon(), due.wonNormal());
+            checks.same("33 by changed rules", game.longestGame(), due.longest());
+            checks.same("34 by changed rules", game.shortestGame(), due.shortest());
+        }
     }
 
     private static boolean differsSomewhere() {
