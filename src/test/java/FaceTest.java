@@ -31,7 +31,8 @@ public final class FaceTest {
 
     private static final String[] FORBIDDEN = {"\\bimport\\b", "\\bpackage\\b", "->", "::", "\\bsynchronized\\b",
         "\\bassert\\b", "\\bfinally\\b", "\\btry\\b", "\\bcatch\\b", "static \\{", "Exact\\b", "\\bequals\\b",
-        "\\bhashCode\\b", "\\btoString\\b", "\\bRandom\\b", "\\bSystem\\.(?!arraycopy\\b)", "\\bInteger\\.[A-Z]", "\\bLong\\.[A-Z]",
+        "\\bhashCode\\b", "\\btoString\\b", "\\bRandom\\b",
+        "\\bSystem\\.(?!arraycopy\\b)", "\\bInteger\\.[A-Z]", "\\bLong\\.[A-Z]",
         "\\bMath\\.(?!min\\b|max\\b)", "\\bObject\\b", "\\bprotected\\b"};
 
     private static final Checks checks = new Checks();
