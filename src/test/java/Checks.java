@@ -49,6 +49,10 @@ final class Checks {
         same(what + ", digest after it", game.digest(), before);
     }
 
+    int made() {
+        return made;
+    }
+
     void end() {
         System.out.println(made + " checks, " + wrong + " wrong");
         if (wrong != 0 || made == 0) {

@@ -12,12 +12,8 @@ public final class PositionsTest {
         }
         checks.same("positions", positions.size(), 272);
         for (List<Integer> heaps : positions) {
-            CairnGame game = new CairnGame();
-            for (int size : heaps) {
-                game.addHeap(size);
-            }
             for (int rules = 0; rules < 20; rules++) {
-                checkByRules(game, heaps, rules);
+                checkByRules(heaps, Rules.numbered(rules));
             }
         }
         checks.end();
@@ -39,36 +35,49 @@ public final class PositionsTest {
         }
     }
 
-    private static void checkByRules(CairnGame game, List<Integer> heaps, int rules) {
-        int greatest = rules / 4 + 1;
-        boolean splitting = rules % 2 == 1;
-        boolean merging = rules / 2 % 2 == 1;
-        game.setGreatestTake(greatest);
-        if (game.isSplitting() != splitting) {
-            game.turnSplitting();
+    /** The rules that moves depend on. */
+    private record Rules(int greatest, boolean splitting, boolean merging) {
+        static Rules numbered(int rules) {
+            return new Rules(rules / 4 + 1, rules % 2 == 1, rules / 2 % 2 == 1);
         }
-        if (game.isMerging() != merging) {
-            game.turnMerging();
+
+        CairnGame game(List<Integer> heaps) {
+            return Games.by(greatest, splitting, merging, heaps.stream().mapToInt(Integer::intValue).toArray());
         }
-        String where = heaps + " by " + greatest + ", " + splitting + ", " + merging + ": ";
-        Reference.Worth due = Reference.worth(heaps, greatest, splitting, merging);
+
+        List<Reference.Move> moves(List<Integer> heaps) {
+            return Reference.list(heaps, greatest, splitting, merging);
+        }
+
+        Reference.Worth worth(List<Integer> heaps) {
+            return Reference.worth(heaps, greatest, splitting, merging);
+        }
+
+        boolean isWon(List<Integer> heaps, boolean normal) {
+            return normal ? worth(heaps).wonNormal() : worth(heaps).wonTurned();
+        }
+    }
+
+    /** On a game of its own: by all rules there would be more than 512 calls. */
+    private static void checkByRules(List<Integer> heaps, Rules rules) {
+        CairnGame game = rules.game(heaps);
+        String where = heaps + " by " + rules + ": ";
+        Reference.Worth due = rules.worth(heaps);
         checks.same(where + "number()", game.number(), due.number());
         checks.same(where + "longestGame()", game.longestGame(), due.longest());
         checks.same(where + "shortestGame()", game.shortestGame(), due.shortest());
         int together = 0;
         for (int size : heaps) {
-            together ^= Reference.worth(List.of(size), greatest, splitting, merging).number();
+            together ^= rules.worth(List.of(size)).number();
         }
         checks.same(where + "numberByHeaps()", game.numberByHeaps(), together);
-        if (!merging) {
+        if (!rules.merging) {
             checks.same(where + "without merging", game.numberByHeaps(), game.number());
         }
-        List<Reference.Move> moves = Reference.list(heaps, greatest, splitting, merging);
-        checkMoves(game, moves, where);
-        for (int ending = 0; ending < 2; ending++) {
-            checkEnding(game, heaps, moves, where);
-            game.turnEnding();
-        }
+        checkMoves(game, rules.moves(heaps), where);
+        checkEnding(game, heaps, rules, true);
+        game.turnEnding();
+        checkEnding(game, heaps, rules, false);
     }
 
     private static void checkMoves(CairnGame game, List<Reference.Move> moves, String where) {
@@ -80,29 +89,26 @@ public final class PositionsTest {
         }
     }
 
-    private static boolean isWon(CairnGame game, List<Integer> heaps) {
-        Reference.Worth worth = Reference.worth(heaps, game.greatestTake(), game.isSplitting(), game.isMerging());
-        return game.isNormal() ? worth.wonNormal() : worth.wonTurned();
-    }
-
-    private static void checkEnding(CairnGame game, List<Integer> heaps, List<Reference.Move> moves, String where) {
+    private static void checkEnding(CairnGame game, List<Integer> heaps, Rules rules, boolean normal) {
+        String where = heaps + " by " + rules + ", normal " + normal + ": ";
+        List<Reference.Move> moves = rules.moves(heaps);
         int winners = 0;
         int firstWinner = -1;
         int firstLongest = -1;
         int longest = -1;
         for (int m = 0; m < moves.size(); m++) {
             List<Integer> behind = Reference.after(heaps, moves.get(m));
-            boolean wins = !isWon(game, behind);
+            boolean wins = !rules.isWon(behind, normal);
             checks.same(where + "wins(" + m + ")", game.wins(m), wins);
             winners += wins ? 1 : 0;
             firstWinner = wins && firstWinner < 0 ? m : firstWinner;
-            int length = Reference.worth(behind, game.greatestTake(), game.isSplitting(), game.isMerging()).longest();
+            int length = rules.worth(behind).longest();
             if (length > longest) {
                 longest = length;
                 firstLongest = m;
             }
         }
-        checks.same(where + "isWon()", game.isWon(), isWon(game, heaps));
+        checks.same(where + "isWon()", game.isWon(), rules.isWon(heaps, normal));
         checks.same(where + "winningMoves()", game.winningMoves(), winners);
         checks.same(where + "bestReply()", game.bestReply(), winners > 0 ? firstWinner : firstLongest);
         checks.same(where + "winningShare()", game.winningShare(),

@@ -3,7 +3,6 @@ public final class PromisesTest {
     private static final Class<IndexOutOfBoundsException> INDEX = IndexOutOfBoundsException.class;
     private static final Class<IllegalArgumentException> ARGUMENT = IllegalArgumentException.class;
     private static final Class<IllegalStateException> STATE = IllegalStateException.class;
-    private static final int[] FAR = {Integer.MIN_VALUE, -1, Integer.MAX_VALUE};
 
     private static final Checks checks = new Checks();
 
@@ -20,33 +19,6 @@ public final class PromisesTest {
 
     // ---- helpers
 
-    private static CairnGame game(int... sizes) {
-        CairnGame game = new CairnGame();
-        for (int size : sizes) {
-            game.addHeap(size);
-        }
-        return game;
-    }
-
-    private static CairnGame mergingGame(int... sizes) {
-        CairnGame game = game(sizes);
-        game.turnMerging();
-        return game;
-    }
-
-    private static CairnGame turnedGame(int... sizes) {
-        CairnGame game = game(sizes);
-        game.turnEnding();
-        return game;
-    }
-
-    private static CairnGame withText(CairnGame game, String text) {
-        for (int i = 0; i < text.length(); i++) {
-            game.append(text.charAt(i));
-        }
-        return game;
-    }
-
     private static void sizes(String what, CairnGame game, int... due) {
         checks.same(what + ", heaps", game.heaps(), due.length);
         for (int heap = 0; heap < due.length && heap < game.heaps(); heap++) {
@@ -60,10 +32,6 @@ public final class PromisesTest {
         call.answer();
         game.undo();
         checks.same(what + " undone", game.digest(), before);
-    }
-
-    private static long one(boolean flag) {
-        return flag ? 1 : 0;
     }
 
     // ---- heaps and rules
@@ -98,12 +66,12 @@ public final class PromisesTest {
     }
 
     private static void promise2() {
-        CairnGame game = mergingGame(4, 5);
+        CairnGame game = Games.merging(4, 5);
         game.setGreatestTake(2);
         game.turnSplitting();
         game.turnEnding();
         game.take(0, 1);
-        withText(game, "t0");
+        Games.withText(game, "t0");
         undoes("2 begin", game, game::begin);
         checks.same("2 made came back", game.madeOf(CairnGame.TAKE), 1);
         checks.same("2 stones that there were", game.begin(), 8);
@@ -122,7 +90,7 @@ public final class PromisesTest {
 
     private static void promise3() {
         CairnGame game = new CairnGame();
-        for (int far : FAR) {
+        for (int far : Games.FAR) {
             checks.refuses("3 far", ARGUMENT, game, () -> game.addHeap(far));
         }
         checks.refuses("3 no stones", ARGUMENT, game, () -> game.addHeap(0));
@@ -136,9 +104,9 @@ public final class PromisesTest {
         sizes("3 order", game, 7, 4, 1);
         checks.refuses("3 thirteenth stone", STATE, game, () -> game.addHeap(1));
         checks.same("3 no move", game.made(), 0);
-        sizes("3 twelve heaps", game(1, 1, 1, 1, 1, 1, 1, 1, 1, 1, 1, 1), 1, 1, 1, 1, 1, 1, 1, 1, 1, 1, 1, 1);
-        sizes("3 one heap", game(12), 12);
-        CairnGame later = game(3);
+        sizes("3 twelve heaps", Games.of(1, 1, 1, 1, 1, 1, 1, 1, 1, 1, 1, 1), 1, 1, 1, 1, 1, 1, 1, 1, 1, 1, 1, 1);
+        sizes("3 one heap", Games.of(12), 12);
+        CairnGame later = Games.of(3);
         later.take(0, 1);
         later.addHeap(1);
         checks.same("3 player stays", later.player(), 1);
@@ -146,8 +114,8 @@ public final class PromisesTest {
     }
 
     private static void promise4() {
-        CairnGame game = game(6);
-        for (int far : FAR) {
+        CairnGame game = Games.of(6);
+        for (int far : Games.FAR) {
             checks.refuses("4 far", ARGUMENT, game, () -> game.setGreatestTake(far));
         }
         checks.refuses("4 none", ARGUMENT, game, () -> game.setGreatestTake(0));
@@ -162,8 +130,8 @@ public final class PromisesTest {
     }
 
     private static void promise5() {
-        CairnGame game = game(4);
-        undoes("5 turnSplitting", game, () -> one(game.turnSplitting()));
+        CairnGame game = Games.of(4);
+        undoes("5 turnSplitting", game, () -> Games.one(game.turnSplitting()));
         checks.holds("5 forbids", !game.turnSplitting());
         checks.holds("5 forbidden", !game.isSplitting());
         checks.same("5 takes alone", game.moves(), 3);
@@ -172,8 +140,8 @@ public final class PromisesTest {
     }
 
     private static void promise6() {
-        CairnGame game = game(1, 1);
-        undoes("6 turnMerging", game, () -> one(game.turnMerging()));
+        CairnGame game = Games.of(1, 1);
+        undoes("6 turnMerging", game, () -> Games.one(game.turnMerging()));
         checks.holds("6 allows", game.turnMerging());
         checks.holds("6 allowed", game.isMerging());
         checks.same("6 with the merge", game.moves(), 3);
@@ -182,8 +150,8 @@ public final class PromisesTest {
     }
 
     private static void promise7() {
-        CairnGame game = game(1);
-        undoes("7 turnEnding", game, () -> one(game.turnEnding()));
+        CairnGame game = Games.of(1);
+        undoes("7 turnEnding", game, () -> Games.one(game.turnEnding()));
         checks.holds("7 turned", !game.turnEnding());
         checks.holds("7 not normal", !game.isNormal());
         checks.holds("7 one stone is lost then", !game.isWon());
@@ -201,8 +169,8 @@ public final class PromisesTest {
     }
 
     private static void promise8() {
-        CairnGame game = game(2, 6, 3);
-        for (int far : FAR) {
+        CairnGame game = Games.of(2, 6, 3);
+        for (int far : Games.FAR) {
             checks.refuses("8 far heap", INDEX, game, () -> game.take(far, 1));
             checks.refuses("8 far stones", ARGUMENT, game, () -> game.take(0, far));
         }
@@ -226,8 +194,8 @@ public final class PromisesTest {
     }
 
     private static void promise9() {
-        CairnGame game = game(5, 4);
-        for (int far : FAR) {
+        CairnGame game = Games.of(5, 4);
+        for (int far : Games.FAR) {
             checks.refuses("9 far heap", INDEX, game, () -> game.split(far, 1));
             checks.refuses("9 far part", ARGUMENT, game, () -> game.split(0, far));
         }
@@ -246,19 +214,19 @@ public final class PromisesTest {
         game.turnSplitting();
         checks.refuses("9 forbidden", STATE, game, () -> game.split(0, 1));
         checks.refuses("9 range first", ARGUMENT, game, () -> game.split(0, 7));
-        CairnGame great = game(12);
+        CairnGame great = Games.of(12);
         great.split(0, 6);
         sizes("9 halves", great, 6, 6);
-        CairnGame stone = game(1);
+        CairnGame stone = Games.of(1);
         checks.refuses("9 one stone", STATE, stone, () -> stone.split(0, 1));
     }
 
     private static void promise10() {
-        CairnGame game = game(3, 2, 4, 1);
+        CairnGame game = Games.of(3, 2, 4, 1);
         checks.refuses("10 forbidden", STATE, game, () -> game.merge(0, 1));
         checks.refuses("10 same, forbidden too", ARGUMENT, game, () -> game.merge(1, 1));
         game.turnMerging();
-        for (int far : FAR) {
+        for (int far : Games.FAR) {
             checks.refuses("10 far heap", INDEX, game, () -> game.merge(far, 0));
             checks.refuses("10 far other", INDEX, game, () -> game.merge(0, far));
             checks.refuses("10 far both", INDEX, game, () -> game.merge(far, far));
@@ -274,15 +242,15 @@ public final class PromisesTest {
         checks.same("10 stone thrown away", game.stones(), 8);
         checks.same("10 made", game.madeOf(CairnGame.MERGE), 2);
         checks.same("10 player", game.player(), 0);
-        CairnGame ones = mergingGame(1, 1);
+        CairnGame ones = Games.merging(1, 1);
         checks.same("10 ones", ones.merge(1, 0), 1);
         sizes("10 ones", ones, 1);
     }
 
     private static void promise11() {
-        CairnGame game = mergingGame(2, 4);
+        CairnGame game = Games.merging(2, 4);
         // 0, 1: takes of heap 0; 2 to 4: of heap 1; 5: split of heap 0; 6, 7: of heap 1; 8: merge
-        for (int far : FAR) {
+        for (int far : Games.FAR) {
             checks.refuses("11 far", INDEX, game, () -> game.make(far));
         }
         checks.refuses("11 behind the last", INDEX, game, () -> game.make(9));
@@ -304,11 +272,11 @@ public final class PromisesTest {
     // ---- the game as it is
 
     private static void gameAsItIs() {
-        CairnGame game = mergingGame(5, 2);
+        CairnGame game = Games.merging(5, 2);
         checks.same("12 heaps", game.heaps(), 2);
         checks.same("13 first", game.stonesOf(0), 5);
         checks.same("13 second", game.stonesOf(1), 2);
-        for (int far : FAR) {
+        for (int far : Games.FAR) {
             checks.refuses("13 far", INDEX, game, () -> game.stonesOf(far));
         }
         checks.refuses("13 behind the last", INDEX, game, () -> game.stonesOf(2));
@@ -330,7 +298,7 @@ public final class PromisesTest {
     }
 
     private static void promises19to21() {
-        CairnGame game = mergingGame(5, 4);
+        CairnGame game = Games.merging(5, 4);
         checks.same("19 first", game.player(), 0);
         game.split(0, 2);
         checks.same("19 second", game.player(), 1);
@@ -344,7 +312,7 @@ public final class PromisesTest {
         checks.same("21 splits", game.madeOf(CairnGame.SPLIT), 1);
         checks.same("21 merges", game.madeOf(CairnGame.MERGE), 1);
         checks.refuses("21 behind", ARGUMENT, game, () -> game.madeOf(3));
-        for (int far : FAR) {
+        for (int far : Games.FAR) {
             checks.refuses("21 far", ARGUMENT, game, () -> game.madeOf(far));
         }
         game.setGreatestTake(5);
@@ -362,7 +330,7 @@ public final class PromisesTest {
     }
 
     private static void promise22() {
-        CairnGame game = game(2, 1);
+        CairnGame game = Games.of(2, 1);
         checks.same("22 before", game.winner(), CairnGame.NONE);
         game.take(0, 2);
         checks.same("22 a heap is left", game.winner(), CairnGame.NONE);
@@ -390,7 +358,7 @@ public final class PromisesTest {
     }
 
     private static void possibleMoves() {
-        CairnGame game = mergingGame(4, 1, 5);
+        CairnGame game = Games.merging(4, 1, 5);
         checks.same("23 moves", game.moves(), 14);
         int[][] due = {{0, 0, 1}, {0, 0, 2}, {0, 0, 3}, {0, 1, 1}, {0, 2, 1}, {0, 2, 2}, {0, 2, 3},
             {1, 0, 1}, {1, 0, 2}, {1, 2, 1}, {1, 2, 2}, {2, 0, 1}, {2, 0, 2}, {2, 1, 2}};
@@ -406,9 +374,9 @@ public final class PromisesTest {
         checks.same("23 without splits", game.moves(), 10);
         move(game, 7, CairnGame.MERGE, 0, 1);
         checks.same("23 none", new CairnGame().moves(), 0);
-        checks.same("23 twelve ones", mergingGame(1, 1, 1, 1, 1, 1, 1, 1, 1, 1, 1, 1).moves(), 78);
-        checks.same("23 twos", mergingGame(2, 2, 2, 2, 2, 2).moves(), 33);
-        CairnGame one = game(12);
+        checks.same("23 twelve ones", Games.merging(1, 1, 1, 1, 1, 1, 1, 1, 1, 1, 1, 1).moves(), 78);
+        checks.same("23 twos", Games.merging(2, 2, 2, 2, 2, 2).moves(), 33);
+        CairnGame one = Games.of(12);
         one.setGreatestTake(5);
         checks.same("23 one heap", one.moves(), 11);
         move(one, 10, CairnGame.SPLIT, 0, 6);
@@ -427,7 +395,7 @@ public final class PromisesTest {
     private static void promises27and28() {
         checks.same("27 none", new CairnGame().number(), 0);
         checks.same("28 none", new CairnGame().numberByHeaps(), 0);
-        CairnGame game = game(4);
+        CairnGame game = Games.of(4);
         game.turnSplitting();
         checks.same("27 without splits, 4 is 4 mod 4", game.number(), 0);
         game.setGreatestTake(5);
@@ -435,16 +403,16 @@ public final class PromisesTest {
         game.addHeap(5);
         checks.same("27 together", game.number(), 4 ^ 5);
         checks.same("28 together", game.numberByHeaps(), 4 ^ 5);
-        CairnGame turned = turnedGame();
+        CairnGame turned = Games.turned();
         checks.same("27 none, turned", turned.number(), 0);
-        CairnGame pair = mergingGame(1, 1);
+        CairnGame pair = Games.merging(1, 1);
         // a merge leads to one stone, as both takes do
         checks.same("27 two ones with merging", pair.number(), 0);
-        CairnGame unlike = mergingGame(2, 3);
+        CairnGame unlike = Games.merging(2, 3);
         checks.same("27 with merging", unlike.number(),
                 Reference.worth(java.util.List.of(2, 3), 3, true, true).number());
-        int two = mergingGame(2).number();
-        int three = mergingGame(3).number();
+        int two = Games.merging(2).number();
+        int three = Games.merging(3).number();
         checks.same("28 with merging", unlike.numberByHeaps(), two ^ three);
         checks.holds("28 merging makes a difference", differsSomewhere());
         rulesChange();
@@ -452,7 +420,7 @@ public final class PromisesTest {
 
     /** An object that has seen other rules finds the same as a new one by the rules that there are. */
     private static void rulesChange() {
-        CairnGame game = game(5, 4, 1);
+        CairnGame game = Games.of(5, 4, 1);
         for (int rules = 0; rules < 40; rules++) {
             game.setGreatestTake(1 + rules * 3 % 5);
             game.turnMerging();
@@ -471,7 +439,7 @@ public final class PromisesTest {
     private static boolean differsSomewhere() {
         for (int a = 1; a <= 6; a++) {
             for (int b = 1; b <= 6; b++) {
-                CairnGame game = mergingGame(a, b);
+                CairnGame game = Games.merging(a, b);
                 if (game.number() != game.numberByHeaps()) {
                     return true;
                 }
@@ -482,13 +450,13 @@ public final class PromisesTest {
 
     private static void promises29and30() {
         checks.holds("29 none, normal", !new CairnGame().isWon());
-        checks.holds("29 none, turned", turnedGame().isWon());
-        checks.holds("29 one stone", game(1).isWon());
-        checks.holds("29 one stone, turned", !turnedGame(1).isWon());
-        checks.holds("29 two ones", !game(1, 1).isWon());
-        checks.holds("29 two ones, turned", turnedGame(1, 1).isWon());
-        checks.holds("29 two stones, turned", turnedGame(2).isWon());
-        CairnGame game = game(2, 1);
+        checks.holds("29 none, turned", Games.turned().isWon());
+        checks.holds("29 one stone", Games.of(1).isWon());
+        checks.holds("29 one stone, turned", !Games.turned(1).isWon());
+        checks.holds("29 two ones", !Games.of(1, 1).isWon());
+        checks.holds("29 two ones, turned", Games.turned(1, 1).isWon());
+        checks.holds("29 two stones, turned", Games.turned(2).isWon());
+        CairnGame game = Games.of(2, 1);
         // takes of 1 and 2 from heap 0, a take of heap 1, the split of heap 0
         checks.holds("30 leaves two ones", game.wins(0));
         checks.holds("30 leaves a one", !game.wins(1));
@@ -500,29 +468,29 @@ public final class PromisesTest {
         checks.holds("30 a two, turned", !game.wins(2));
         checks.holds("30 three ones, turned", game.wins(3));
         for (int wrong : new int[] {4, -1, Integer.MIN_VALUE, Integer.MAX_VALUE}) {
-            checks.refuses("30 " + wrong, INDEX, game, () -> one(game.wins(wrong)));
+            checks.refuses("30 " + wrong, INDEX, game, () -> Games.one(game.wins(wrong)));
         }
-        checks.holds("30 the last stone", game(1).wins(0));
-        checks.holds("30 the last stone, turned", !turnedGame(1).wins(0));
+        checks.holds("30 the last stone", Games.of(1).wins(0));
+        checks.holds("30 the last stone, turned", !Games.turned(1).wins(0));
         CairnGame empty = new CairnGame();
-        checks.refuses("30 no heaps", INDEX, empty, () -> one(empty.wins(0)));
+        checks.refuses("30 no heaps", INDEX, empty, () -> Games.one(empty.wins(0)));
     }
 
     private static void promises31and32() {
         checks.same("31 none", new CairnGame().winningMoves(), 0);
-        checks.same("31 none, turned", turnedGame().winningMoves(), 0);
+        checks.same("31 none, turned", Games.turned().winningMoves(), 0);
         checks.same("32 none", new CairnGame().bestReply(), CairnGame.NONE);
-        checks.same("32 none, turned", turnedGame().bestReply(), CairnGame.NONE);
-        checks.same("31 one way", game(2, 1).winningMoves(), 1);
-        checks.same("31 two ways", turnedGame(2, 1).winningMoves(), 2);
-        checks.same("32 first", game(2, 1).bestReply(), 0);
-        checks.same("32 first, turned", turnedGame(2, 1).bestReply(), 1);
-        CairnGame lost = game(2, 2);
+        checks.same("32 none, turned", Games.turned().bestReply(), CairnGame.NONE);
+        checks.same("31 one way", Games.of(2, 1).winningMoves(), 1);
+        checks.same("31 two ways", Games.turned(2, 1).winningMoves(), 2);
+        checks.same("32 first", Games.of(2, 1).bestReply(), 0);
+        checks.same("32 first, turned", Games.turned(2, 1).bestReply(), 1);
+        CairnGame lost = Games.of(2, 2);
         checks.same("31 lost", lost.winningMoves(), 0);
         // 0 to 3 are takes, 4 and 5 the splits, behind which the game can go on for 5 moves, not only for 4
         checks.same("32 lost, the longest", lost.bestReply(), 4);
-        checks.same("32 lost, first of equals", game(1, 1).bestReply(), 0);
-        CairnGame takes = game(4);
+        checks.same("32 lost, first of equals", Games.of(1, 1).bestReply(), 0);
+        CairnGame takes = Games.of(4);
         takes.turnSplitting();
         checks.same("31 takes alone, lost", takes.winningMoves(), 0);
         checks.same("32 takes alone, the longest", takes.bestReply(), 0);
@@ -532,32 +500,32 @@ public final class PromisesTest {
         checks.same("33 none", new CairnGame().longestGame(), 0);
         checks.same("34 none", new CairnGame().shortestGame(), 0);
         checks.same("35 none", new CairnGame().winningShare(), 0.0);
-        checks.same("35 none, turned", turnedGame().winningShare(), 0.0);
-        CairnGame game = game(12);
+        checks.same("35 none, turned", Games.turned().winningShare(), 0.0);
+        CairnGame game = Games.of(12);
         checks.same("33 splits, then takes", game.longestGame(), 23);
         checks.same("34 takes of 3", game.shortestGame(), 4);
         game.setGreatestTake(5);
         checks.same("34 takes of 5", game.shortestGame(), 3);
         game.turnSplitting();
         checks.same("33 takes alone", game.longestGame(), 12);
-        CairnGame ones = game(1, 1, 1, 1);
+        CairnGame ones = Games.of(1, 1, 1, 1);
         checks.same("33 ones", ones.longestGame(), 4);
         checks.same("34 ones", ones.shortestGame(), 4);
         ones.turnMerging();
         checks.same("33 merged ones", ones.longestGame(), 4);
-        CairnGame twos = game(2, 2, 2, 2);
+        CairnGame twos = Games.of(2, 2, 2, 2);
         checks.same("34 twos", twos.shortestGame(), 4);
         twos.setGreatestTake(1);
         twos.turnMerging();
         checks.same("34 twos by 1, merged or not", twos.shortestGame(), 8);
-        checks.same("35 two thirds", game(2).winningShare(), 2.0 / 3);
-        checks.same("35 one of four", game(2, 1).winningShare(), 0.25);
-        checks.same("35 lost", game(1, 1).winningShare(), 0.0);
-        checks.same("35 all", game(1).winningShare(), 1.0);
+        checks.same("35 two thirds", Games.of(2).winningShare(), 2.0 / 3);
+        checks.same("35 one of four", Games.of(2, 1).winningShare(), 0.25);
+        checks.same("35 lost", Games.of(1, 1).winningShare(), 0.0);
+        checks.same("35 all", Games.of(1).winningShare(), 1.0);
     }
 
     private static void nothingChanges() {
-        CairnGame game = withText(mergingGame(3, 2), "t0-1");
+        CairnGame game = Games.withText(Games.merging(3, 2), "t0-1");
         long before = game.digest();
         game.number();
         game.numberByHeaps();
@@ -601,7 +569,7 @@ public final class PromisesTest {
     }
 
     private static void error(String text, int due) {
-        CairnGame game = withText(new CairnGame(), text);
+        CairnGame game = Games.withText(new CairnGame(), text);
         checks.same("38 " + text, game.firstError(), due);
         checks.same("38 " + text + " again", game.firstError(), due);
         if (due != CairnGame.NONE) {
@@ -635,7 +603,7 @@ public final class PromisesTest {
     }
 
     private static void promise39() {
-        CairnGame game = withText(game(6), "s0/2,t1-3,t0-2,t0-1,t0-1");
+        CairnGame game = Games.withText(Games.of(6), "s0/2,t1-3,t0-2,t0-1,t0-1");
         long before = game.digest();
         checks.same("39 up to the end", game.play(), 4);
         checks.same("39 winner", game.winner(), 1);
@@ -656,22 +624,22 @@ public final class PromisesTest {
         stops("m1+0,t0-1", 2);
         stops("m0+2", 0);
         stops("m7+0", 0);
-        CairnGame fixed = withText(game(6, 2), "m0+1");
+        CairnGame fixed = Games.withText(Games.of(6, 2), "m0+1");
         checks.same("39 merging forbidden", fixed.play(), 0);
         fixed.turnSplitting();
-        checks.same("39 splitting forbidden", withText(fixed, "s0/1").play(), 0);
-        checks.same("39 no heaps", withText(new CairnGame(), "t0-1").play(), 0);
-        CairnGame long13 = withText(game(12), "t0-1,t0-1,t0-1,t0-1,t0-1,t0-1,t0-1,t0-1,t0-1,t0-1,t0-1,t0-1");
+        checks.same("39 splitting forbidden", Games.withText(fixed, "s0/1").play(), 0);
+        checks.same("39 no heaps", Games.withText(new CairnGame(), "t0-1").play(), 0);
+        CairnGame long13 = Games.withText(Games.of(12), "t0-1,t0-1,t0-1,t0-1,t0-1,t0-1,t0-1,t0-1,t0-1,t0-1,t0-1,t0-1");
         checks.same("39 twelve moves", long13.play(), 12);
         checks.same("39 the winner", long13.winner(), 1);
-        CairnGame ten = withText(mergingGame(1, 1, 1, 1, 1, 1, 1, 1, 1, 1, 1, 1), "m10+11,t10-1,t9-1");
+        CairnGame ten = Games.withText(Games.merging(1, 1, 1, 1, 1, 1, 1, 1, 1, 1, 1, 1), "m10+11,t10-1,t9-1");
         checks.same("39 heaps 10 and 11", ten.play(), 3);
         checks.same("39 heaps 10 and 11, stones", ten.stones(), 9);
     }
 
     /** Of the text's moves, so many are made on heaps of 6 and 2 with merging. */
     private static void stops(String text, int due) {
-        CairnGame game = withText(mergingGame(6, 2), text);
+        CairnGame game = Games.withText(Games.merging(6, 2), text);
         long before = game.digest();
         checks.same("39 " + text, game.play(), due);
         checks.same("39 " + text + ", made", game.made(), due);
@@ -690,7 +658,7 @@ public final class PromisesTest {
             digests[heap] = game.digest();
             game.addHeap(1);
         }
-        withText(game, "t0");
+        Games.withText(game, "t0");
         for (int left = 5; left >= 0; left--) {
             checks.same("40 left", game.undo(), left);
             checks.same("40 state", game.digest(), digests[left + 3]);
@@ -703,13 +671,13 @@ public final class PromisesTest {
         game.turnSplitting();
         checks.same("40 saved again after undo", game.undo(), 0);
         checks.same("41 begun", new CairnGame().digest(), -3449928064310207524L);
-        checks.same("41 twelve", game(12).digest(), 8179468904993771118L);
+        checks.same("41 twelve", Games.of(12).digest(), 8179468904993771118L);
         promise41();
     }
 
     /** The digest put together from the other calls, in states that differ in each of them. */
     private static void promise41() {
-        CairnGame game = mergingGame(3, 5, 2);
+        CairnGame game = Games.merging(3, 5, 2);
         compareDigest(game);
         game.turnEnding();
         compareDigest(game);
@@ -734,10 +702,11 @@ public final class PromisesTest {
         for (int heap = 0; heap < game.heaps(); heap++) {
             hash = 31 * hash + game.stonesOf(heap);
         }
-        long[] values = {game.greatestTake(), one(game.isSplitting()), one(game.isMerging()), one(game.isNormal()),
-            game.player(), game.made(), game.winner(), game.moves(), game.number(), game.numberByHeaps(),
-            one(game.isWon()), game.winningMoves(), game.bestReply(), game.longestGame(), game.shortestGame(),
-            game.madeOf(CairnGame.TAKE), game.madeOf(CairnGame.SPLIT), game.madeOf(CairnGame.MERGE)};
+        long[] values = {game.greatestTake(), Games.one(game.isSplitting()), Games.one(game.isMerging()),
+            Games.one(game.isNormal()), game.player(), game.made(), game.winner(), game.moves(), game.number(),
+            game.numberByHeaps(), Games.one(game.isWon()), game.winningMoves(), game.bestReply(), game.longestGame(),
+            game.shortestGame(), game.madeOf(CairnGame.TAKE), game.madeOf(CairnGame.SPLIT),
+            game.madeOf(CairnGame.MERGE)};
         for (long value : values) {
             hash = 31 * hash + value;
         }

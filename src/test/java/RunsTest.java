@@ -44,7 +44,7 @@ public final class RunsTest {
                 compare(run, calls++, game, reference, below(4) == 0 ? "clearText" : "play", new Object[0]);
             } else {
                 String name = NAMES[below(NAMES.length)];
-                compare(run, calls++, game, reference, name, arguments(name, game));
+                compare(run, calls++, game, reference, name, arguments(name, reference));
             }
             if (calls < CALLS) {
                 compare(run, calls++, game, reference, "digest", new Object[0]);
@@ -52,24 +52,24 @@ public final class RunsTest {
         }
     }
 
-    private static Object[] arguments(String name, CairnGame game) {
+    private static Object[] arguments(String name, Reference now) {
         switch (name) {
             case "addHeap":
                 return new Object[] {below(8) == 0 ? odd(13) : 1 + below(6)};
             case "setGreatestTake":
                 return new Object[] {below(4) == 0 ? odd(6) : 1 + below(5)};
             case "take":
-                return new Object[] {heap(game), below(6) == 0 ? odd(6) : 1 + below(3)};
+                return new Object[] {heap(now), below(6) == 0 ? odd(6) : 1 + below(3)};
             case "split":
-                return new Object[] {heap(game), below(6) == 0 ? odd(7) : 1 + below(3)};
+                return new Object[] {heap(now), below(6) == 0 ? odd(7) : 1 + below(3)};
             case "merge":
-                return new Object[] {heap(game), heap(game)};
+                return new Object[] {heap(now), heap(now)};
             case "stonesOf":
-                return new Object[] {heap(game)};
+                return new Object[] {heap(now)};
             case "madeOf":
                 return new Object[] {below(4) == 0 ? odd(3) : below(3)};
             case "make", "kindOf", "heapOf", "amountOf", "wins":
-                return new Object[] {below(6) == 0 ? odd(game.moves()) : below(game.moves() + 1)};
+                return new Object[] {below(6) == 0 ? odd(now.moves()) : below(now.moves() + 1)};
             case "append":
                 return new Object[] {below(2) == 0 ? 30 + below(100) : odd(127)};
             default:
@@ -83,8 +83,8 @@ public final class RunsTest {
         return values[below(values.length)];
     }
 
-    private static int heap(CairnGame game) {
-        return below(10) == 0 ? odd(game.heaps()) : below(Math.max(1, game.heaps()));
+    private static int heap(Reference now) {
+        return below(10) == 0 ? odd(now.heaps()) : below(Math.max(1, now.heaps()));
     }
 
     private static String text() {
